@@ -16,6 +16,7 @@ public final class BodyTest {
         longitudesWithTerms();
         failingAnomalies();
         heights();
+        everyBitOfManyAnswers();
         siderealAngles();
         wrongTimesAndBodies();
         DUE.end();
@@ -115,6 +116,10 @@ public final class BodyTest {
             x.orbit(2, row[0], row[1], 0, row[2]);
             DUE.answer("longitude with L " + row[0] + ", N " + row[1], row[4], () -> x.longitude(2, row[3]));
         }
+        SkyAlmanac x = new SkyAlmanac();
+        x.orbit(0, 0, 0, 0, 0);
+        x.term(0, 0, -1e-15, 0, 0);
+        DUE.answer("a longitude that 360 more makes 360", 0.0, () -> x.longitude(0, 0));
     }
 
     private static SkyAlmanac withSun() {
@@ -226,6 +231,44 @@ public final class BodyTest {
             x.observer(90, 0);
             DUE.answer("height at the pole at longitude " + row[0], row[2], () -> x.height(0, 0));
         }
+    }
+
+    /** A wrong last digit of a factor shows only in the last bits of few answers, so many are folded. */
+    private static void everyBitOfManyAnswers() {
+        long sines = 0;
+        long cosines = 0;
+        long heights = 0;
+        for (int i = 0; i < 4000; i++) {
+            SkyAlmanac x = new SkyAlmanac();
+            x.orbit(0, i * 0.09, 0, 0, 0);
+            x.orbit(1, 100, 0, 0, 0);
+            x.orbit(2, 10, i * 0.02, i % 100 * 0.004, -30);
+            x.term(1, 0, 10, i * 0.09, 0);
+            x.term(2, 0, 3, 5, i * 0.02);
+            x.term(2, 1, 2.5, 7, 1.5);
+            x.term(2, 2, -0.5, 9, 2.5);
+            cosines = 31 * cosines + bits(x.longitude(1, 0));
+            x.observer(90, 0);
+            sines = 31 * sines + bits(x.height(0, 0));
+            x.observer(i * 0.02, i * 0.04);
+            heights = 31 * heights + bitsOfHeight(x, i * 0.7 - 1000);
+        }
+        long[] folded = {sines, cosines, heights};
+        DUE.answer("sines", 677199683958946243L, () -> folded[0]);
+        DUE.answer("cosines", -5134242506004662798L, () -> folded[1]);
+        DUE.answer("heights", 275347873096952520L, () -> folded[2]);
+    }
+
+    private static long bitsOfHeight(SkyAlmanac x, double t) {
+        try {
+            return bits(x.height(2, t));
+        } catch (IllegalStateException failed) {
+            return 1;
+        }
+    }
+
+    private static long bits(double answer) {
+        return Double.doubleToLongBits(answer + 0.0); // the sum makes -0.0 and 0.0 the same
     }
 
     private static void siderealAngles() {

@@ -12,6 +12,8 @@ public final class EventTest {
         eventsOfASun();
         noEventAtThePole();
         equalHeights();
+        heightsOfExactlyZero();
+        allPartsOfADay();
         failuresEndAnEvent();
         wrongArguments();
         DUE.end();
@@ -67,6 +69,47 @@ public final class EventTest {
         event(x, 0, RISING, -5, Due.ELEMENT, 17, 0);
         event(x, 0, SETTING, -5, Due.ELEMENT, 17, 0);
         event(x, 0, HIGHEST, -5, -4.999996287300496, 63, 0);
+    }
+
+    /** At the pole a height is exactly 0 where the longitude is 0 or 180. */
+    private static void heightsOfExactlyZero() {
+        SkyAlmanac x = new SkyAlmanac();
+        x.observer(90, 0);
+        x.orbit(0, -1, 32, 0, 0);
+        event(x, 0, RISING, 0, 0.03125, 22, 0);
+        x.orbit(0, 179, 32, 0, 0);
+        event(x, 0, SETTING, 0, 0.031250059604644775, 22, 0);
+        x.orbit(0, -2, 32, 0, 0);
+        event(x, 0, RISING, 0, 0.0625, 22, 0);
+        x.orbit(0, 178, 32, 0, 0);
+        event(x, 0, SETTING, 0, 0.06250005960464478, 23, 0);
+    }
+
+    private static void allPartsOfADay() {
+        double[][] rows = { // longitude of a body that stands still, rising, setting, highest
+            {0, 7.949178636074066, 7.450543820858002, 7.201225502860332},
+            {15, 7.987439453601837, 7.4888046979904175, 7.2394887495982125},
+            {30, 7.029226660728455, 7.527861475944519, 7.278544332165147},
+            {60, 7.112078130245209, 7.610712945461273, 7.361395491396946},
+            {90, 7.201226472854614, 7.699861228466034, 7.450545183590634},
+            {135, 7.332711398601532, 7.831346154212952, 7.582029986893504},
+            {165, 7.412283003330231, 7.91091775894165, 7.661599397882718},
+            {195, 7.4888046979904175, 7.987439453601837, 7.738122640667797},
+            {225, 7.568376302719116, 7.069741487503052, 7.817692552608289},
+            {255, 7.654761493206024, 7.15612667798996, 7.904078235530493},
+            {270, 7.699861228466034, 7.201226472854614, 7.949179904176859},
+            {285, 7.744960963726044, 7.246326208114624, 7.994279133110043},
+            {300, 7.789009511470795, 7.290374755859375, 7.041057092197153},
+            {330, 7.871860980987549, 7.373226225376129, 7.123910276920228},
+        };
+        SkyAlmanac x = new SkyAlmanac();
+        for (double[] row : rows) {
+            x.orbit(1, row[0], 0, 0, 0);
+            for (int kind = RISING; kind <= HIGHEST; kind++) {
+                int k = kind;
+                DUE.answer("event " + k + " at longitude " + row[0], row[k + 1], () -> x.event(1, k, 7));
+            }
+        }
     }
 
     private static void failuresEndAnEvent() {
